@@ -55,6 +55,10 @@ public final class SharedSurplus {
     private static final int SET_ROOM = 1;
     private static final int SET_SPAN = 2;
 
+    private static final int GOAL_THROUGH = 0;
+    private static final int GOAL_CLOSE = 1;
+    private static final int GOAL_CAUGHT = 2;
+
     private static final int EVENT_LOST = 0;
     private static final int EVENT_CAUGHT = 1;
     private static final int EVENT_FREED = 2;
@@ -429,45 +433,15 @@ public final class SharedSurplus {
     // ---- ON PAPER
 
     public int when(int flow) {
-        if (net.flowAt(flow) == null) {
-            return refuse(NO_SUCH);
-        }
-        paper.copyFrom(net);
-        for (int n = 0; n < PAPER_TICKS; n++) {
-            if (paper.isThrough(flow)) {
-                return answer(n);
-            }
-            paper.passTicks(1);
-        }
-        return paper.isThrough(flow) ? answer(PAPER_TICKS) : refuse(NEVER);
+        return net.flowAt(flow) == null ? refuse(NO_SUCH) : ticksUntil(GOAL_THROUGH, flow);
     }
 
     public int closes(int gap) {
-        if (gap < 0) {
-            return refuse(BAD_NUMBER);
-        }
-        paper.copyFrom(net);
-        for (int n = 0; n < PAPER_TICKS; n++) {
-            if (paper.windowGap() <= gap) {
-                return answer(n);
-            }
-            paper.passTicks(1);
-        }
-        return paper.windowGap() <= gap ? answer(PAPER_TICKS) : refuse(NEVER);
+        return gap < 0 ? refuse(BAD_NUMBER) : ticksUntil(GOAL_CLOSE, gap);
     }
 
     public int caught(int flow) {
-        if (net.flowAt(flow) == null) {
-            return refuse(NO_SUCH);
-        }
-        paper.copyFrom(net);
-        for (int n = 0; n < PAPER_TICKS; n++) {
-            if (paper.linksThatCaught(flow) != 0) {
-                return answer(n);
-            }
-            paper.passTicks(1);
-        }
-        return paper.linksThatCaught(flow) != 0 ? answer(PAPER_TICKS) : refuse(NEVER);
+        return net.flowAt(flow) == null ? refuse(NO_SUCH) : ticksUntil(GOAL_CAUGHT, flow);
     }
 
     public int after(int n, int what) {
@@ -532,6 +506,28 @@ public final class SharedSurplus {
                 tape[taped] = (byte) (four >> shift);
                 taped++;
             }
+        }
+    }
+
+    private int ticksUntil(int goal, int number) {
+        paper.copyFrom(net);
+        for (int n = 0; n < PAPER_TICKS; n++) {
+            if (isReached(goal, number)) {
+                return answer(n);
+            }
+            paper.passTicks(1);
+        }
+        return isReached(goal, number) ? answer(PAPER_TICKS) : refuse(NEVER);
+    }
+
+    private boolean isReached(int goal, int number) {
+        switch (goal) {
+            case GOAL_THROUGH:
+                return paper.isThrough(number);
+            case GOAL_CLOSE:
+                return paper.windowGap() <= number;
+            default:
+                return paper.linksThatCaught(number) != 0;
         }
     }
 
