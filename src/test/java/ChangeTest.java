@@ -12,6 +12,7 @@ public final class ChangeTest {
         ticks();
         spanNumbers();
         shares();
+        feedIsTheLeast();
         caughtLoses();
         bounds();
         orderOfReturns();
@@ -246,6 +247,24 @@ public final class ChangeTest {
         x.tick(1);
         // Two of flow 1 in tick 4, PART 450: 32 less 10 less 10, then WEIGHT holds: 40 less 32 less 10.
         c.due("WINDOW of the liar", x.flow(1, 5), 210);
+    }
+
+    private static void feedIsTheLeast() {
+        Check c = new Check("23");
+        SharedSurplus x = Nets.of("link 9 1 60 span 4;link 1 1 60 span 2;flow 1 0;");
+        x.tick(5);
+        // Of link 1 none came in ticks 3 and 4: 80 by WEIGHT 1, which the one that is sent in tick 5 gets whole.
+        c.due("given(1, 0)", x.given(1, 0), 80);
+        // Of link 0 it gets 200 of 400 of 1,360 in tick 6, which is more; the next one gets nothing of link 1.
+        c.due("PLUS of link 0", x.link(0, 8), 1360);
+        x.tick(1);
+        c.due("given(0, 0)", x.given(0, 0), 680);
+        x.tick(2);
+        c.due("WINDOW", x.flow(0, 5), 200);
+        x.tick(1);
+        c.due("WINDOW", x.flow(0, 5), 280);
+        x.tick(1);
+        c.due("WINDOW", x.flow(0, 5), 280);
     }
 
     private static void caughtLoses() {

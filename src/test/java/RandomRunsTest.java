@@ -18,8 +18,15 @@ public final class RandomRunsTest {
     public static void main(String[] args) {
         int wrong = 0;
         long[] heard = new long[10];
+        long[] seen = new long[5];
         for (int seed = 0; seed < RUNS && wrong < 5; seed++) {
-            wrong += new RandomRunsTest(seed).run(seed, heard) ? 0 : 1;
+            wrong += new RandomRunsTest(seed).run(seed, heard, seen) ? 0 : 1;
+        }
+        for (int kind = 0; kind < seen.length; kind++) {
+            if (seen[kind] == 0) {
+                System.out.println("no event was of kind " + kind);
+                wrong++;
+            }
         }
         for (int s : new int[] {0, 1, 2, 3, 4, 5, 6, 9}) {
             if (heard[s] == 0) {
@@ -33,7 +40,7 @@ public final class RandomRunsTest {
         }
     }
 
-    private boolean run(int seed, long[] heard) {
+    private boolean run(int seed, long[] heard, long[] seen) {
         loadSomething(false);
         for (int n = 0; n < CALLS; n++) {
             String call = step();
@@ -45,6 +52,9 @@ public final class RandomRunsTest {
             if (random.nextInt(10) == 0 && !same()) {
                 System.out.println("seed " + seed + ", call " + n + ": the states differ");
                 return false;
+            }
+            if (m.many(7) > 0) {
+                seen[m.event(0, 0)]++;
             }
         }
         return same();

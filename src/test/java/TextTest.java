@@ -53,7 +53,7 @@ public final class TextTest {
         c.due("MARKS stay", x.many(3), 1);
         c.due("nothing stands", x.many(4) + x.many(5) + x.many(6), 0);
         c.due("past(0, 0)", x.past(0, 0), -1);
-        c.due("WINDOW", x.flow(0, 5), 200);
+        c.due("the same as of a new object", Snapshot.of(x).equals(marked(Nets.of(LINK + "flow 0;"))), true);
         c.due("tape is empty", x.feed(0, 0, 0, 0, 0), 20);
 
         String before = Snapshot.of(x).replaceAll(" \\S+ \\S+$", "");
@@ -69,6 +69,11 @@ public final class TextTest {
         c.due("back to the first net", x.back(), 0);
         c.due("FLOWS", x.many(1), 2);
         c.due("TICK", x.many(2), 9);
+    }
+
+    private static String marked(SharedSurplus x) {
+        x.mark();
+        return Snapshot.of(x);
     }
 
     private static void goodTexts() {
@@ -156,6 +161,8 @@ public final class TextTest {
         fault(LINK + "flow 0 deaf deaf;", 5, 23);
         fault(LINK + "flow 0 liar off greedy;", 5, 27);
         fault(LINK + "flow 0 deaf left 3 liar;", 5, 30);
+        fault(LINK + "flow 0 deaf left 3 off liar;", 5, 34);
+        fault(LINK + "flow 0 deaf left 3 off on;", 2, 34);
         String six = LINK + LINK + LINK + LINK + LINK + LINK;
         fault(six + "link;", 6, 66);
         fault(six + "flow 0;flow 0;flow 0;flow 0;flow 0;flow 0;flow 9;", 6, 108);
