@@ -11,6 +11,24 @@ final class Nets {
         return x;
     }
 
+    /** A net behind some calls. */
+    static SharedSurplus run(String text, String... calls) {
+        return Calls.all(of(text), calls);
+    }
+
+    /**
+     * Three links, five flows (number 4 is off), packets everywhere, one of them lost, flows that are caught, a mark, a told
+     * fault and twenty bytes on the tape: much that a call could change.
+     */
+    static SharedSurplus lived() {
+        SharedSurplus x = of("link 2 1 4 span 9;link 2 1 4 span 5;link 3 4 20;"
+            + "flow 0 1 left 90;flow 1 greedy;flow 1 0 liar left 99;flow 2 0 greedy;flow 2 off;");
+        Calls.all(x, "tick(10)", "mark()", "set(1, 0, 3)", "tick(7)");
+        load(x, "link 0 1 1;");
+        feed(x, "link 4 3 2;flow 0;  ");
+        return x;
+    }
+
     static int load(SharedSurplus x, String text) {
         feed(x, text);
         return x.load(text.length());

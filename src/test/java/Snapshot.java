@@ -4,6 +4,11 @@ final class Snapshot {
     }
 
     static String of(SharedSurplus x) {
+        return ofNet(x) + x.fault(0) + ' ' + x.fault(1);
+    }
+
+    /** Without what fault() tells, which belongs to the latest load. */
+    static String ofNet(SharedSurplus x) {
         StringBuilder all = new StringBuilder();
         for (int what = 0; what <= 9; what++) {
             all.append(x.many(what)).append(' ');
@@ -22,7 +27,7 @@ final class Snapshot {
                 all.append(x.event(i, what)).append(' ');
             }
         }
-        return all.append(x.fault(0)).append(' ').append(x.fault(1)).toString();
+        return all.toString();
     }
 
     private static void addLink(StringBuilder all, SharedSurplus x, int link) {
