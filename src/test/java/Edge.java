@@ -2,6 +2,7 @@ import java.util.function.Supplier;
 
 /** One sentence of the document that names a boundary case, and the answers that it asks for. */
 final class Edge {
+    private static final int NO_SUCH_WHAT = -1;
     private static int sentences;
     private static int asked;
     private static int wrong;
@@ -28,12 +29,16 @@ final class Edge {
         due(what, holds ? 1 : 0, 1);
     }
 
-    /** A call that is taken: its answer, and STATUS 0. */
+    /** A call that is taken: its answer, and STATUS 0, whatever it was ahead of it. */
     void due(SharedSurplus x, String call, long want) {
-        due(call, Calls.ask(x, call), want);
-        if (!hasNoStatus(call)) {
-            due("status() behind " + call, x.status(), 0);
+        if (hasNoStatus(call)) {
+            due(call, Calls.ask(x, call), want);
+            return;
         }
+        x.many(NO_SUCH_WHAT);
+        due("status() ahead of " + call, x.status(), 1);
+        due(call, Calls.ask(x, call), want);
+        due("status() behind " + call, x.status(), 0);
     }
 
     /** Calls of one name and first arguments, such as "flow(0, ", whose last argument counts from 0 on. */

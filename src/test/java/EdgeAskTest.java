@@ -125,8 +125,7 @@ public final class EdgeAskTest {
         e.refused(Nets::lived, 1, "packet(0, -1, 0)", "packet(0, 0, 7)", "packet(0, 0, -1)", "packet(3, 0, 7)", "packet(0, -2147483648, 0)");
         e.refused(Nets::lived, 2, "packet(3, 0, 0)", "packet(-1, 0, 0)");
         // As if it were the front one: the share of each, were it next.
-        SharedSurplus y = Nets.run("link 1 1 9 span 4;flow 0 left 1;flow 0 left 1;flow 0 left 1;", "tick(4)",
-            "more(0, 1)", "more(1, 1)", "more(2, 1)", "tick(1)");
+        SharedSurplus y = Nets.parted("tick(1)");
         e.due(y, "packet(0, 0, 6)", 20);
         e.due(y, "packet(0, 1, 6)", 27);
         e.due("the asking gives nothing away", y.given(0, 0), 13);
@@ -197,7 +196,10 @@ public final class EdgeAskTest {
         e.due(x, "tick(1)", 4);
         e.due(x, "eldest(0)", 3);
         e.due(x, "eldest(1)", 1);
-        // One that comes back flies, too, and one that is lost.
+        // One on a wire flies, one that comes back, too, and one that is lost.
+        SharedSurplus w = Nets.run("link 1 9 1;flow 0 left 1;", "tick(9)");
+        e.due(w, "where(0, 1)", 1);
+        e.due(w, "eldest(0)", 1);
         SharedSurplus y = Nets.run("link 1 9 1;flow 0 left 1;flow 0 left 1;", "tick(18)");
         e.due(y, "where(0, 2)", 1);
         e.due(y, "eldest(0)", 1);
@@ -231,8 +233,7 @@ public final class EdgeAskTest {
         SharedSurplus x = Nets.of("link 9 1 60;flow 0;flow 0;flow 0;");
         e.dueEach(x, "top(", 0, 0, 0);
         // WINDOWS 213, 220, 207; DONE 2 each.
-        SharedSurplus y = Nets.run("link 1 1 9 span 4;flow 0 left 1;flow 0 left 1;flow 0 left 1;", "tick(4)",
-            "more(0, 1)", "more(1, 1)", "more(2, 1)", "tick(5)");
+        SharedSurplus y = Nets.parted("tick(5)");
         e.dueEach(y, "top(", 1, 0, 0);
         // Of one that is off, too: flow 1 has lost two, flow 2 as many.
         SharedSurplus z = Nets.run("link 1 1 2;flow 0;flow 0;flow 0;", "tick(2)", "turn(1, false)");
@@ -255,6 +256,12 @@ public final class EdgeAskTest {
         int[][] due = {{0, 3, 2}, {0, 0, 2}, {0, 1, 1}, {1, 0, 1}, {0, 2, 0}, {2, 0, 0}, {4, 4, 2}, {4, 2, 0}, {5, 0, 0}, {0, 4, 0}, {5, 1, 0}};
         for (int[] d : due) {
             e.due(x, "alike(" + d[0] + ", " + d[1] + ")", d[2]);
+        }
+        // Unlike in the first or in the last LINK alone.
+        SharedSurplus ends = Nets.of("link 1 1 1;".repeat(4) + "flow 0 1 2;flow 3 1 2;flow 0 1 3;flow 2 1 3;flow 3 1 0;");
+        for (int other = 1; other <= 4; other++) {
+            e.due(ends, "alike(0, " + other + ")", 0);
+            e.due(ends, "alike(" + other + ", 0)", 0);
         }
         // A PATH of one LINK is the same backwards: 2 comes first.
         e.due(Nets.of("link 1 1 1;flow 0;flow 0;"), "alike(0, 1)", 2);

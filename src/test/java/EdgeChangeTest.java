@@ -221,6 +221,10 @@ public final class EdgeChangeTest {
             SharedSurplus x = Calls.all(Nets.lived(), "mark()", change, "tick(5)", change, "back()");
             e.due("all is as it was ahead of " + change, Future.of(x).equals(Future.of(Nets.lived())));
         }
+        // LOW in the midst of a SPAN, which shows in PLUS and MINUS as it ends.
+        SharedSurplus low = Nets.run("link 1 1 60 span 4;flow 0;flow 0;flow 0;", "tick(2)", "mark()", "tick(30)", "back()");
+        e.due(low, "link(0, 7)", 4);
+        e.due("all goes on", Future.of(low).equals(Future.of(Nets.run("link 1 1 60 span 4;flow 0;flow 0;flow 0;", "tick(2)"))));
         // Another NET, too; what fault() tells and the tape are of the latest load() and of those who feed.
         SharedSurplus y = Nets.lived();
         y.mark();
@@ -231,6 +235,10 @@ public final class EdgeChangeTest {
         e.due(y, "mark()", 2);
         e.due("the old NET", Snapshot.ofNet(y).equals(before));
         e.due(y, "fault(0)", 0);
+        y.load(0);
+        Nets.feed(y, "link 1 1 1;flow 0;  ");
+        Calls.all(y, "back()", "mark()");
+        e.due("the tape is as it was fed", y.feed(0, 0, 0, 0, 0), 40);
         // A MARK holds though what came behind it was taken back.
         Calls.all(y, "tick(9)", "back()", "tick(3)", "back()");
         e.due(y, "many(2)", 10);

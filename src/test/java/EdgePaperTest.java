@@ -81,8 +81,7 @@ public final class EdgePaperTest {
 
     /** WINDOWS 213, 220 and 200 in tick 8, and 213, 220 and 207 from tick 9 on. */
     private static SharedSurplus closing() {
-        return Nets.run("link 1 1 9 span 4;flow 0 left 1;flow 0 left 1;flow 0 left 1;", "tick(4)",
-            "more(0, 1)", "more(1, 1)", "more(2, 1)", "tick(4)");
+        return Nets.parted("tick(4)");
     }
 
     private static void closes() {
@@ -166,6 +165,11 @@ public final class EdgePaperTest {
         e.dueEach(x, "after(2, ", 1000, 0, 0, 0, 1);
         e.dueEach(x, "after(3, ", 900, 100, 0, 1, 0);
         e.dueEach(x, "after(5, ", 900, 100, 1, 1, 0);
+        // Six of each: one of two is lost of each flow in tick 1, and back in 2. The greatest ROW may be that of the last link.
+        String six = "flow 0;flow 1;flow 2;flow 3;flow 4;flow 5;";
+        e.dueEach(Nets.of("link 1 1 1;".repeat(6) + six), "after(2, ", 1000, 0, 0, 6, 0);
+        e.dueEach(Nets.of("link 9 1 60;".repeat(5) + "link 1 1 60;" + six), "after(1, ", 1000, 0, 0, 0, 1);
+        e.dueEach(Nets.of("link 9 1 60;".repeat(6) + six), "after(3, ", 1000, 0, 12, 0, 0);
         e.refused(Nets::lived, 1, "after(1, 5)", "after(1, -1)", "after(0, 5)", "after(121, 5)");
     }
 
@@ -214,7 +218,17 @@ public final class EdgePaperTest {
         e.dueEach(z, "blind(2, ", 900, 100, 0, 1, 1);
         e.due("blind(120, 2)", x.blind(120, 2) > 0 && x.status() == 0);
         e.refused(Nets::lived, 1, "blind(-1, 0)", "blind(121, 0)", "blind(1, 5)", "blind(1, -1)", "blind(2147483647, 0)");
-        // None is BLIND behind it.
+        // None is BLIND behind it: two are sent in every other tick up to 19, and back two ticks later.
+        SharedSurplus w = Nets.of("link 9 1 60 span 30;flow 0 left 20;flow 0 left 1;");
+        String[] calls = {"when(0)", "without(0, 0, 15)", "closes(0)", "least(0, 0, 10)", "after(15, 2)"};
+        int[] due = {21, 14, 0, 1, 15};
+        for (int i = 0; i < calls.length; i++) {
+            e.due("DONE, BLIND", w.blind(15, 2) > 15);
+            e.due(w, calls[i], due[i]);
+        }
+        e.due("DONE, BLIND", w.blind(15, 2) > 15);
+        e.due(w, "tick(15)", 15);
+        e.due(w, "flow(0, 9)", 14);
         e.due("after(120, 0)", Calls.all(Nets.lived(), "blind(120, 0)").after(120, 0), Nets.lived().after(120, 0));
     }
 

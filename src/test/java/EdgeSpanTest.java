@@ -2,8 +2,6 @@
 public final class EdgeSpanTest {
     /** Whatever is sent in tick 1 comes to link 1 in tick 2, the last of its SPAN, so that LOW is 0 there. */
     private static final String LATE = "link 9 1 60;link %d 1 60 span 2;";
-    /** Shares of 13, 20 and 7 of 40, in ticks 5, 6 and 7: three came of four, PARTS 100 each; then TURN is 2, 3 and 4. */
-    private static final String[] PARTED = {"tick(4)", "more(0, 1)", "more(1, 1)", "more(2, 1)"};
 
     public static void main(String[] args) {
         spare();
@@ -15,6 +13,7 @@ public final class EdgeSpanTest {
         gotAndTook();
         caughtAtTheEdge();
         claimIsCut();
+        claimOfTwoAndThree();
         notAnyMore();
         fair();
         newSpan();
@@ -142,6 +141,32 @@ public final class EdgeSpanTest {
         }
     }
 
+    private static void claimOfTwoAndThree() {
+        Edge e = new Edge("Section 4", "one and a half times its CLAIM (the WINDOW times SPAN by (100 times TURN), cut, as its latest told), cut, and 2");
+        // Two each in ticks 1, 2 and a TURN later. TURN 8, SPAN 10: CLAIM 2, five are fine. TURN 6: CLAIM 3, six are fine.
+        int[][] cases = {{4, 5, 0}, {4, 6, 1}, {3, 6, 0}, {3, 7, 1}};
+        for (int[] c : cases) {
+            SharedSurplus x = Nets.run("link 9 " + c[0] + " 60;flow 0 greedy left " + c[1] + ";", "tick(9)");
+            e.due(x, "link(0, 6)", Math.min(c[1], c[0] == 4 ? 6 : 8));
+            e.due(x, "tick(1)", 10);
+            e.due(x, "link(0, 14)", c[2]);
+        }
+        // TURN 2, SPAN 4: of 200 CLAIM 4, and the eight that came are fine; of 199, 796 by 200, CLAIM 3, and seven are one too many.
+        SharedSurplus near = Nets.run("link 3 1 9 span 4;flow 0 greedy;flow 0;", "tick(4)");
+        e.due(near, "flow(0, 8)", 8);
+        e.due(near, "link(0, 14)", 0);
+        e.due(near, "tick(4)", 8);
+        e.due(near, "flow(0, 8)", 15);
+        e.due(near, "flow(0, 5)", 199);
+        e.due(near, "link(0, 14)", 1);
+        // The least TURN that can be told, 1, of one sent behind a loss: CLAIM 20 of WINDOW 503; three came.
+        SharedSurplus least = Nets.run("link 9 1 1 span 4;flow 0;", "tick(8)");
+        e.due(least, "flow(0, 7)", 1);
+        e.due(least, "flow(0, 5)", 503);
+        e.due(least, "link(0, 11)", 3);
+        e.due(least, "link(0, 14)", 0);
+    }
+
     private static void notAnyMore() {
         Edge e = new Edge("Section 4", "else not any more.");
         SharedSurplus x = Nets.run("link 9 5 60 span 4;flow 0 greedy left 4;", "tick(4)");
@@ -189,20 +214,25 @@ public final class EdgeSpanTest {
         // WINDOW 240 and TURN 4 in tick 9: 166 each.
         SharedSurplus x = Nets.run("link 1 2 5 span 4;flow 0 left 3;", "tick(9)", "more(0, 2)", "tick(3)");
         e.due(x, "link(0, 10)", 332);
+        // TURN 216, which a liar tells, by 200.
+        SharedSurplus liar = Nets.run("link 9 9 60;".repeat(4) + "flow 0 1 2 3 liar left 1;", "tick(10)");
+        e.due(liar, "link(0, 10)", 10800);
+        // What it tells, not what its FLOW has by now: 3 by 200 of the one that goes in tick 7.
+        SharedSurplus told = Nets.run("link 1 1 4 span 3;flow 0 greedy;", "tick(7)");
+        e.due(told, "flow(0, 7)", 4);
+        e.due(told, "flow(0, 5)", 159);
+        e.due(told, "link(0, 12)", 150);
+        e.due(told, "tick(2)", 9);
+        e.due(told, "flow(0, 5)", 148);
         // WINDOW 4,000 and TURN 2: 5 each; four came.
         SharedSurplus y = Nets.run("link 9 1 60 span 2;flow 0;", "tick(60)");
         e.due(y, "flow(0, 5)", 4000);
         e.due(y, "link(0, 10)", 20);
     }
 
-    private static SharedSurplus parted(String... calls) {
-        SharedSurplus x = Nets.run("link 1 1 9 span 4;flow 0 left 1;flow 0 left 1;flow 0 left 1;", PARTED);
-        return Calls.all(x, calls);
-    }
-
     private static void partedWhole() {
         Edge e = new Edge("Section 4", "the share is by how much GOT times PLUS by WEIGHT, cut, became more, less by how much TOOK times MINUS by COUNT, cut, became more.");
-        SharedSurplus x = parted();
+        SharedSurplus x = Nets.parted();
         surplus(e, x, 0, 40, 0, 300, 3);
         int[] given = {13, 33, 40};
         int[] got = {100, 250, 300};
@@ -234,7 +264,7 @@ public final class EdgeSpanTest {
 
     private static void weightAtMost() {
         Edge e = new Edge("Section 4", "Its share: GOT becomes GOT and its PART, WEIGHT at most;");
-        SharedSurplus x = parted("tick(2)");
+        SharedSurplus x = Nets.parted("tick(2)");
         e.due(x, "packet(0, 0, 6)", 7);
         e.due(x, "tick(1)", 7);
         e.due(x, "link(0, 12)", 300);

@@ -14,6 +14,7 @@ public final class EdgeTermsTest {
         gap();
         bestCut();
         bestOfSeveral();
+        bestAgain();
         bestOthers();
         past();
         blind();
@@ -140,10 +141,9 @@ public final class EdgeTermsTest {
         e.dueEach(x, "event(" + i + ", ", 2, 8, 2, 2);
     }
 
-    /** WINDOWS 213, 220 and 207 in tick 9 (see EdgeSpanTest). */
+    /** WINDOWS 213, 220 and 207 in tick 9 (see Nets.parted). */
     private static SharedSurplus uneven() {
-        return Nets.run("link 1 1 9 span 4;flow 0 left 1;flow 0 left 1;flow 0 left 1;", "tick(4)",
-            "more(0, 1)", "more(1, 1)", "more(2, 1)", "tick(5)");
+        return Nets.parted("tick(5)");
     }
 
     private static void even() {
@@ -214,6 +214,20 @@ public final class EdgeTermsTest {
         e.due(z, "best(3)", 555);
     }
 
+    private static void bestAgain() {
+        Edge e = new Edge("Section 5", "all grow alike; again and again: of the LINKS with FLOWS that grow");
+        // As many rounds as can be: each link holds one of six flows.
+        SharedSurplus x = Nets.of("link 6 1 1;link 5 1 1;link 4 1 1;link 3 1 1;link 2 1 1;link 1 1 1;flow 0;flow 1;flow 2;flow 3;flow 4;flow 5;");
+        for (int f = 0; f < 6; f++) {
+            e.due(x, "best(" + f + ")", 6000 - 1000 * f);
+            e.due(x, "neck(" + f + ")", f);
+        }
+        // A link without a flow, or with one that is off, holds none.
+        SharedSurplus y = Nets.of("link 1 1 1;link 1 1 1;link 5 1 1;flow 1 2 off;flow 2;");
+        e.due(y, "best(1)", 5000);
+        e.due(y, "neck(1)", 2);
+    }
+
     private static void bestOthers() {
         Edge e = new Edge("Section 5", "Others 0.");
         SharedSurplus x = Nets.of("link 3 1 1;flow 0;flow 0 off;");
@@ -252,6 +266,9 @@ public final class EdgeTermsTest {
         SharedSurplus y = Nets.of("link 1 1 1;flow 0;flow 0 left 0;");
         e.due(y, "blind(2, 1)", 100);
         e.due(y, "blind(2, 3)", 1);
+        // Of one alone: 50, and with the second 50 and 40.
+        e.due(Nets.of("link 9 1 60 span 30;flow 0 left 1;flow 0 left 0;"), "blind(3, 1)", 50);
+        e.due(Nets.of("link 9 1 60 span 30;flow 0 left 2;flow 0 left 0;"), "blind(3, 1)", 90);
         // A deaf one is no deafer: the same 40.
         e.due(Nets.of("link 9 1 60 span 30;flow 0 left 4 deaf;flow 0 left 1;"), "blind(3, 1)", 40);
     }
@@ -263,6 +280,13 @@ public final class EdgeTermsTest {
         String due = Future.of(Nets.lived());
         for (String call : calls) {
             e.due(call + " leaves all as it is", Future.of(Calls.all(Nets.lived(), call)).equals(due));
+        }
+        // However often, and whatever was asked ahead of it: each call answers as the first one of an object.
+        SharedSurplus asked = Nets.lived();
+        for (int n = 0; n < 40; n++) {
+            for (String call : calls) {
+                e.due(call, Calls.ask(asked, call), Calls.ask(Nets.lived(), call));
+            }
         }
         // Two are sent in tick 1, back in 73 and 74, and two more then, back in 145 and 146.
         String far = "link 1 9 60;".repeat(4) + "flow 0 1 2 3 left 4;";
@@ -392,7 +416,7 @@ public final class EdgeTermsTest {
         Nets.feed(x, "link 9 1 60;flow 0; ");
         Calls.all(x, "load(20)", "mark()", "mark()", "mark()");
         for (int call = 6; call < 511; call++) {
-            e.due(x, "tick(60)", 60 * (call - 5));
+            e.due("call " + call, x.tick(60), 60 * (call - 5));
         }
         e.due("call 511", x.many(2), 505 * 60);
         e.due("call 512", x.flow(0, 5), 4000);

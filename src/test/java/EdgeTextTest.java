@@ -34,6 +34,7 @@ public final class EdgeTextTest {
         feeding();
         fullTape();
         loading();
+        loadingAgain();
         loadRefused();
         loadFaulty();
         faultTold();
@@ -191,6 +192,16 @@ public final class EdgeTextTest {
         fault(e, "Link 1 1 1;", 1, 0);
         fault(e, "liNk 1 1 1;", 2, 0);
         fault(e, LINK + "flow 0 oFf;", 2, 18);
+        // A letter less, more, or another one, in front or behind.
+        for (String word : new String[] {"ink", "lin", "xink", "linx", "links", "alink", "flo", "low", "flox", "xlow", "flows"}) {
+            fault(e, LINK + word + " 0 1 1;", 2, 11);
+        }
+        for (String word : new String[] {"spam", "xpan", "spans", "spa"}) {
+            fault(e, "link 1 1 1 " + word + " 5;", 2, 11);
+        }
+        for (String word : new String[] {"lef", "xeft", "lefx", "lefts", "dea", "xeaf", "deax", "lia", "xiar", "liax", "gree", "xreedy", "greedx", "of", "xff", "ofx", "offf"}) {
+            fault(e, LINK + "flow 0 " + word + ";", 2, 18);
+        }
         fault(e, "link 1 1 1 Span 5;", 1, 11);
     }
 
@@ -331,6 +342,11 @@ public final class EdgeTextTest {
         e.due("load(10) cuts the text", x.load(10), SharedSurplus.NONE);
         e.due("fault(0)", x.fault(0), 2);
         e.due("fault(1)", x.fault(1), 10);
+        // What stands behind the n-th byte is no part of the text, be it a blank.
+        Nets.feed(x, "link 1 1 1   ;");
+        e.due("load(10) cuts the text", x.load(10), SharedSurplus.NONE);
+        e.due("fault(0)", x.fault(0), 2);
+        e.due("fault(1)", x.fault(1), 10);
     }
 
     private static void noSuchLink() {
@@ -437,6 +453,25 @@ public final class EdgeTextTest {
         e.due(x, "back()", 0);
         e.due(x, "many(1)", 5);
         e.due(x, "many(2)", 10);
+    }
+
+    private static void loadingAgain() {
+        Edge e = new Edge("Promise 4", "are the NET, TICK 0, no EVENTS");
+        // Nothing of earlier nets is left, however many there were, and whatever was asked on paper.
+        String marked = "link 9 9 1 span 2;".repeat(6) + "flow 0 left 1 greedy;flow 1 deaf off;flow 2 left 0 liar;flow 3 off;flow 0 4 greedy;flow 5 liar;";
+        SharedSurplus x = new SharedSurplus();
+        for (int n = 0; n < 3; n++) {
+            e.due("load", Nets.load(x, marked), 6);
+            Calls.all(x, "tick(30)", "blind(9, 0)");
+        }
+        String plain = LINK.repeat(2) + "flow 0;flow 0 1;flow 1;flow 0;flow 1;flow 1 0;";
+        for (int n = 0; n < 3; n++) {
+            e.due("load", Nets.load(x, plain), 6);
+            e.due("as of a new object", Snapshot.of(x).equals(Snapshot.of(Nets.of(plain))));
+            Calls.all(x, "tick(30)", "blind(9, 0)");
+        }
+        Nets.load(x, plain);
+        e.due("it goes on as of a new object", Future.of(x).equals(Future.of(Nets.of(plain))));
     }
 
     private static void loadRefused() {

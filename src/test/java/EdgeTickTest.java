@@ -28,6 +28,7 @@ public final class EdgeTickTest {
         behindTheLast();
         windowFull();
         greedyWindow();
+        allThatCanFly();
         twoInATick();
         lastOnesLeft();
         offSendsNothing();
@@ -40,6 +41,7 @@ public final class EdgeTickTest {
         rateOfRow();
         lagOfWire();
         spanDivides();
+        inOneTick();
         Edge.end();
     }
 
@@ -254,9 +256,8 @@ public final class EdgeTickTest {
 
     private static void halfOfIt() {
         Edge e = new Edge("Section 3", "WINDOW half of it.");
-        // As in EdgeSpanTest: a share of 13 of 40, WINDOW 213 in tick 7. One of two is lost in tick 8, and back in 9.
-        SharedSurplus x = Nets.run("link 1 1 9 span 4;flow 0 left 1;flow 0 left 1;flow 0 left 1;", "tick(4)",
-            "more(0, 1)", "more(1, 1)", "more(2, 1)", "tick(3)", "more(0, 2)", "set(0, 1, 1)");
+        // WINDOW 213 in tick 7. One of two is lost in tick 8, and back in 9.
+        SharedSurplus x = Nets.parted("tick(3)", "more(0, 2)", "set(0, 1, 1)");
         e.due(x, "flow(0, 5)", 213);
         e.due(x, "tick(1)", 8);
         e.due(x, "where(0, 3)", 1);
@@ -296,6 +297,15 @@ public final class EdgeTickTest {
         e.due(x, "tick(1)", 6);
         e.due(x, "flow(1, 5)", 100);
         e.due(x, "flow(1, 10)", 0);
+        // Held as each comes back, not as all have: in tick 14 half of 181 is held to 100 ahead of a FEED of 47.
+        SharedSurplus z = Nets.run("link 3 1 2 span 4;link 3 1 1 span 3;flow 0 1 greedy;", "tick(13)");
+        e.due(z, "flow(0, 5)", 181);
+        e.due(z, "flow(0, 9)", 5);
+        e.due(z, "flow(0, 10)", 4);
+        e.due(z, "tick(1)", 14);
+        e.due(z, "flow(0, 9)", 6);
+        e.due(z, "flow(0, 10)", 5);
+        e.due(z, "flow(0, 5)", 147);
         // Half of 200 is 100, half of that is below.
         SharedSurplus y = Nets.run("link 1 1 1;flow 0;flow 0;", "tick(2)");
         e.due(y, "flow(1, 10)", 2);
@@ -356,11 +366,14 @@ public final class EdgeTickTest {
         Edge e = new Edge("Section 3", "and FLYING and 1, times 100, is not above WINDOW");
         SharedSurplus x = Nets.run("link 9 9 60;flow 0;", "tick(9)");
         e.due(x, "flow(0, 6)", 2);
-        // WINDOW 213 (see halfOfIt) is below 300.
-        SharedSurplus y = Nets.run("link 1 1 9 span 4;flow 0 left 1;flow 0 left 1;flow 0 left 1;", "tick(4)",
-            "more(0, 1)", "more(1, 1)", "more(2, 1)", "tick(3)", "more(0, 9)", "tick(2)");
+        // WINDOW 213 is below 300.
+        SharedSurplus y = Nets.parted("tick(3)", "more(0, 9)", "tick(2)");
         e.due(y, "flow(0, 5)", 213);
         e.due(y, "flow(0, 6)", 2);
+        // The liar's WINDOW is 299 in tick 24.
+        SharedSurplus w = Nets.run("link 1 1 60 span 4;flow 0 liar;", "tick(24)");
+        e.due(w, "flow(0, 5)", 299);
+        e.due(w, "flow(0, 6)", 2);
         // Four came of 14: PLUS 400, 100 of it for the one of tick 3: WINDOW 300 in tick 5.
         SharedSurplus z = Nets.run("link 7 1 9 span 2;flow 0 left 3;flow 0 left 2;", "tick(5)", "more(0, 99)", "tick(2)");
         e.due(z, "flow(0, 5)", 300);
@@ -372,10 +385,40 @@ public final class EdgeTickTest {
         SharedSurplus x = Nets.run("link 9 9 60;flow 0 greedy;", "tick(9)");
         e.due(x, "flow(0, 6)", 4);
         // WINDOW 213: four, as 500 is above 426.
-        SharedSurplus y = Nets.run("link 1 1 9 span 4;flow 0 left 1;flow 0 left 1;flow 0 left 1;", "tick(4)",
-            "more(0, 1)", "more(1, 1)", "more(2, 1)", "tick(3)", "more(0, 9)", "kind(0, 3)", "tick(2)");
+        SharedSurplus y = Nets.parted("tick(3)", "more(0, 9)", "kind(0, 3)", "tick(2)");
         e.due(y, "flow(0, 5)", 213);
         e.due(y, "flow(0, 6)", 4);
+    }
+
+    private static void allThatCanFly() {
+        Edge e = new Edge("Section 3", "FLYING and 1, times 100, is not above WINDOW (of a greedy one: twice WINDOW): a packet is sent");
+        // WINDOW 4,000 of six greedy ones, on ways of 72 ticks: eighty of each, and all of them go to paper and to a MARK.
+        SharedSurplus x = Nets.of("link 9 9 60;".repeat(6) + "flow 0 1 2 3 greedy;flow 1 2 3 4 greedy;flow 2 3 4 5 greedy;"
+            + "flow 3 4 5 0 greedy;flow 4 5 0 1 greedy;flow 5 0 1 2 greedy;");
+        for (int n = 0; n < 18; n++) {
+            x.tick(60);
+        }
+        for (int f = 0; f < 6; f++) {
+            e.due(x, "flow(" + f + ", 5)", 4000);
+            e.due(x, "flow(" + f + ", 6)", 80);
+        }
+        e.due("packets in all", x.many(4) + x.many(5) + x.many(6), 480);
+        int told = x.after(60, 2);
+        e.due(x, "mark()", 1);
+        int before = doneOfAll(x);
+        x.tick(60);
+        e.due("DONE as it was told", doneOfAll(x) - before, told);
+        e.due(x, "back()", 0);
+        x.tick(60);
+        e.due("DONE behind a MARK", doneOfAll(x) - before, told);
+    }
+
+    private static int doneOfAll(SharedSurplus x) {
+        int done = 0;
+        for (int f = 0; f < x.many(1); f++) {
+            done += x.flow(f, 9);
+        }
+        return done;
     }
 
     private static void twoInATick() {
@@ -520,6 +563,18 @@ public final class EdgeTickTest {
         }
         SharedSurplus low = Nets.run("link 1 1 60;flow 0;", "tick(1)");
         e.due(low, "link(0, 7)", 1);
+    }
+
+    private static void inOneTick() {
+        Edge e = new Edge("Section 3", "A TICK, numbered from 1 on");
+        // In tick 3, in this order: flow 0's last is back (1), one of flow 1 is lost at link 2 (2), flow 2 sends its last (3),
+        // and flow 3 is CAUGHT at link 3, where CLAIM is 0 (5).
+        SharedSurplus x = Nets.run("link 9 1 60;link 9 2 60;link 9 1 1;link 9 5 60 span 3;"
+            + "flow 0 left 1;flow 1 2;flow 0 left 3;flow 3 greedy;", "tick(3)");
+        e.dueEach(x, "event(3, ", 4, 3, NONE, 0);
+        e.dueEach(x, "event(2, ", 0, 3, 2, 1);
+        e.dueEach(x, "event(1, ", 3, 3, NONE, 2);
+        e.dueEach(x, "event(0, ", 1, 3, 3, 3);
     }
 
     private static void spanDivides() {

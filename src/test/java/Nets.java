@@ -17,6 +17,15 @@ final class Nets {
     }
 
     /**
+     * Tick 4 of three flows of which one each came: PLUS 40, PARTS 100 each. One more each is to be sent, with TURN 2, 3 and 4:
+     * shares of 13, 20 and 7 in ticks 5, 6 and 7, and WINDOWS of 213, 220 and 207 in ticks 7, 8 and 9.
+     */
+    static SharedSurplus parted(String... calls) {
+        SharedSurplus x = run("link 1 1 9 span 4;flow 0 left 1;flow 0 left 1;flow 0 left 1;", "tick(4)", "more(0, 1)", "more(1, 1)", "more(2, 1)");
+        return Calls.all(x, calls);
+    }
+
+    /**
      * Three links, five flows (number 4 is off), packets everywhere, one of them lost, flows that are caught, a mark, a told
      * fault and twenty bytes on the tape: much that a call could change.
      */
