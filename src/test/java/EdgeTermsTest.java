@@ -271,6 +271,12 @@ public final class EdgeTermsTest {
         e.due(Nets.of("link 9 1 60 span 30;flow 0 left 2;flow 0 left 0;"), "blind(3, 1)", 90);
         // A deaf one is no deafer: the same 40.
         e.due(Nets.of("link 9 1 60 span 30;flow 0 left 4 deaf;flow 0 left 1;"), "blind(3, 1)", 40);
+        // 10,000 and no more: 10,001 by 137 would be 73. One of flow 1 is DONE in tick 9: 137, and 72, by 154.
+        SharedSurplus z = Nets.run("link 1 1 6 span 2;flow 0;flow 0;", "tick(8)");
+        e.due(z, "flow(0, 5)", 154);
+        e.due(z, "flow(1, 5)", 137);
+        e.due(z, "blind(1, 2)", 1);
+        e.due(z, "blind(1, 1)", 55);
     }
 
     private static void onPaper() {
